@@ -13,6 +13,7 @@ public final class Promise08CarryTest {
     grantOfNothingEndsTheAsk();
     lateGrantIsOld();
     returnComesBackOnce();
+    returnOfTheLaterOfTwoLoans();
     returnIsCutAtTheBurst();
     returnAfterTheEndIsNothing();
     returnOfLowerBirthIsNothing();
@@ -84,6 +85,12 @@ public final class Promise08CarryTest {
     checks.due("COUNT 1 once more, key 1", x.carry(5), true);
     checks.due("a GRANT of its own too", Scene.message(x, 7), 1, 0, 1, 10, 1, 1, 3);
     checks.due("LOANS stay", Scene.root(x, 0), 0, 70000, 30, 2);
+    LeaseGates y = Scene.full(100, 0);
+    Scene.lend(y, 1, 0, 10);
+    y.restart(0);
+    Scene.lend(y, 0, 7, 1);
+    checks.due("another gate's ASK", y.carry(0), true);
+    checks.due("answers to another gate are not forgotten", Scene.message(y, 4), 1, 1, 0, 20, 0, 1, 0);
   }
 
   private static void partsOfATokenStay() {
@@ -177,6 +184,17 @@ public final class Promise08CarryTest {
     checks.due("15 come back", Scene.root(x, 0), 5, 95000, 0, 0);
     checks.due("once more", x.carry(2), false);
     checks.due("nothing comes back", Scene.root(x, 0), 5, 95000, 0, 0);
+  }
+
+  private static void returnOfTheLaterOfTwoLoans() {
+    LeaseGates x = Scene.full(100, 0);
+    Scene.lend(x, 1, 0, 5);
+    Scene.lend(x, 2, 0, 7);
+    x.tick(1000);
+    x.work(2);
+    checks.due("the later", Scene.message(x, 4), 2, 2, 0, 14, 0, -1, 1);
+    checks.due("comes back", x.carry(4), true);
+    checks.due("the earlier stays", Scene.root(x, 0), 0, 90000, 10, 1);
   }
 
   private static void returnIsCutAtTheBurst() {

@@ -32,6 +32,10 @@ public final class Promise10TickTest {
     checks.due("two steps", x.root(0, 1), 8000);
     x.tick(1);
     checks.due("full", x.root(0, 1), 10000);
+    LeaseGates y = Scene.full(10, 3000);
+    Scene.lend(y, 0, 0, 4);
+    y.tick(2001);
+    checks.due("two steps in one tick", Scene.root(y, 0), 0, 8000, 0, 0);
   }
 
   private static void severalLoansEndInOneTick() {
@@ -64,7 +68,7 @@ public final class Promise10TickTest {
   }
 
   private static LeaseGates manyLoans() {
-    LeaseGates x = Scene.full(100, 777);
+    LeaseGates x = Scene.full(100, 177);
     for (int gate = 0; gate < 6; gate++) {
       x.length(90 - 13 * gate);
       x.speed(gate, 999 + gate % 3);
