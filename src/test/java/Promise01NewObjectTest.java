@@ -17,6 +17,8 @@ public final class Promise01NewObjectTest {
     speedsAreThousand();
     objectsShareNothing();
     faceIsThatOfTheDocument();
+    faceTellsWhatItThrows();
+    classesInsideAreHidden();
     checks.end();
   }
 
@@ -106,6 +108,24 @@ public final class Promise01NewObjectTest {
         "int message[int, int]", "int sent[]", "int clock[int]"));
     checks.due("face", face.toString(), due.toString());
     checks.due("final", Modifier.isFinal(LeaseGates.class.getModifiers()), true);
+  }
+
+  private static void faceTellsWhatItThrows() {
+    for (Method method : LeaseGates.class.getMethods()) {
+      if (method.getDeclaringClass() == LeaseGates.class) {
+        checks.due(method.getName() + " throws", Arrays.toString(method.getExceptionTypes()),
+            method.getName().equals("sent") ? "[]" : "[class java.lang.IllegalArgumentException]");
+        checks.due(method.getName() + " is of an object", Modifier.isStatic(method.getModifiers()), false);
+      }
+    }
+  }
+
+  private static void classesInsideAreHidden() {
+    for (Class<?> inside : LeaseGates.class.getDeclaredClasses()) {
+      int kind = inside.getModifiers();
+      checks.due(inside + " is hidden", Modifier.isPublic(kind) || Modifier.isProtected(kind), false);
+      checks.due(inside + " is static", Modifier.isStatic(kind), true);
+    }
   }
 
   private static void add(TreeSet<String> face, Member member, String text) {

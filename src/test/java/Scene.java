@@ -17,6 +17,23 @@ final class Scene {
     x.key(key, rate, tokens);
   }
 
+  /** True time goes on by more than one tick may. */
+  static void pass(LeaseGates x, int milliseconds) {
+    int left = milliseconds;
+    while (left > 0) {
+      x.tick(Math.min(left, 5000));
+      left -= 5000;
+    }
+  }
+
+  /** Sends so many messages of no use, each a GRANT of nothing that gate 5 asked for of key 7. Calls: as many, and 2. */
+  static void sendUseless(LeaseGates x, int messages) {
+    int ask = ask(x, 5, 7, 1);
+    for (int i = 1; i < messages; i++) {
+      x.carry(ask);
+    }
+  }
+
   /** A gate wants n tokens and works: answers the number of its ask, which is for 2 n if nothing else was wanted. */
   static int ask(LeaseGates x, int gate, int key, int n) {
     x.take(gate, key, n);
@@ -61,7 +78,7 @@ final class Scene {
     return all;
   }
 
-  /** All that can be read of an object. */
+  /** All that can be read of an object. It takes some 400 calls, but no reading uses an object up: it has no count of them. */
   static String all(LeaseGates x) {
     StringBuilder text = new StringBuilder();
     text.append("sent ").append(x.sent());
